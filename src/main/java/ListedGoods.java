@@ -220,10 +220,8 @@ public final class ListedGoods {
         if (course.isListedFor(debt, good) || course.isGone(good) || course.setAside[debt] != 0) {
             return -2;
         }
-        if (course.acts >= ACTS) {
-            return -3;
-        }
-        return course.addAct(debt, good, minute, door);
+        int number = course.addAct(debt, good, minute, door);
+        return number == NONE ? -3 : number;
     }
 
     public int act(int i, int what) throws IllegalArgumentException {
@@ -291,9 +289,6 @@ public final class ListedGoods {
         mustExist(debt, house.debts);
         mustBeIn(m, 1, MOST_COIN);
         mustBeIn(month, 0, MONTHS - 1);
-        if (course.promises >= PROMISES) {
-            return -1;
-        }
         return course.addPromise(debt, m, month);
     }
 
@@ -993,9 +988,7 @@ public final class ListedGoods {
                 return text.fail(MISPLACED);
             }
             wantsAtom = false;
-            boolean read = readAtom(subject);
-            release(NOT);
-            return read;
+            return readAtom(subject);
         }
 
         private int readSubject() {
@@ -1035,7 +1028,6 @@ public final class ListedGoods {
                     return text.fail(MISPLACED);
                 }
                 waits--;
-                release(NOT);
                 return true;
             }
             if (text.hasSign(';')) {
@@ -1062,7 +1054,7 @@ public final class ListedGoods {
             }
         }
 
-        /* All that binds at least as strongly as this has what it joins by now. */
+        /* What waits and binds at least as strongly as this has all that it joins by now. */
         private void release(int weakest) {
             while (waits > 0 && waiting[waits - 1] >= weakest) {
                 waits--;
@@ -1088,8 +1080,7 @@ public final class ListedGoods {
         final int[] promisedFrom = new int[PROMISES];
 
         Course() {
-            Arrays.fill(soldFor, NONE);
-            Arrays.fill(stage, NONE);
+            clear();
         }
 
         void clear() {
@@ -1117,6 +1108,7 @@ public final class ListedGoods {
             System.arraycopy(from.promisedFrom, 0, promisedFrom, 0, PROMISES);
         }
 
+        /** The number of the new act; NONE: the LIST is full. */
         int addAct(int debt, int good, int minute, int door) {
             if (acts >= ACTS) {
                 return NONE;
@@ -1129,6 +1121,7 @@ public final class ListedGoods {
             return acts - 1;
         }
 
+        /** The number of the new PROMISE; NONE: there is no room for it. */
         int addPromise(int debt, int coin, int month) {
             if (promises >= PROMISES) {
                 return NONE;

@@ -7,6 +7,7 @@ public final class TextTest {
         newObject();
         tape();
         houseTakesTheTape();
+        textEnds();
         houseBrings();
         rulesTakeTheTape();
         told();
@@ -68,6 +69,21 @@ public final class TextTest {
         Check.due("the first bytes alone", 0, () -> x.house(ONE.length()));
         Check.due("no fault", -1, x::fault);
         Check.due("the rest is gone too", 0, () -> x.count(1));
+    }
+
+    /* What stands on the tape behind the text is no part of it. */
+    private static void textEnds() {
+        int[][] ends = {{3, 0}, {6, 6}, {8, 8}, {10, 10}, {14, 11}, {18, 18}};
+        for (int[] e : ends) {
+            ListedGoods x = new ListedGoods();
+            Check.feed(x, "person 1 1;good 0 55 0;");
+            Check.due("a text of " + e[0], -9, () -> x.house(e[0]));
+            Check.due("its fault", e[1], x::fault);
+        }
+        ListedGoods y = new ListedGoods();
+        Check.feed(y, "person 1 12;");
+        Check.due("a number that goes on behind the text", -9, () -> y.house(10));
+        Check.due("ends with it", 10, y::fault);
     }
 
     private static void houseBrings() {
@@ -151,6 +167,8 @@ public final class TextTest {
         houseFault(1, 0, "Person 1 1;");
         houseFault(1, 0, "personal 1 1;");
         houseFault(1, 0, "pers on 1 1;");
+        houseFault(1, 0, "personz 1 1;");
+        houseFault(1, 0, "aperson 1 1;");
         houseFault(1, 6, "person");
         houseFault(1, 9, "person   ");
         houseFault(1, 7, "person -1 1;");
