@@ -148,182 +148,155 @@ public final class TextTest {
         Check.refused("told 6", Check.UNFIT, () -> x.told(6));
     }
 
-    private static void houseFault(int kind, int place, String text) {
-        ListedGoods x = new ListedGoods();
-        Check.due("house '" + text + "'", kind - 10, () -> Check.house(x, text));
-        Check.due("its place in '" + text + "'", place, x::fault);
-        Check.due("nothing told by it", 0, () -> x.told(0));
-    }
-
-    private static void houseStands(int goods, String text) {
-        ListedGoods x = new ListedGoods();
-        Check.due("house '" + text + "'", goods, () -> Check.house(x, text));
-        Check.due("no fault in '" + text + "'", -1, x::fault);
-    }
-
     private static void misplacedInHouse() {
-        houseFault(1, 0, ";");
-        houseFault(1, 2, "  ;");
-        houseFault(1, 0, "Person 1 1;");
-        houseFault(1, 0, "personal 1 1;");
-        houseFault(1, 0, "pers on 1 1;");
-        houseFault(1, 0, "personz 1 1;");
-        houseFault(1, 0, "aperson 1 1;");
-        houseFault(1, 6, "person");
-        houseFault(1, 9, "person   ");
-        houseFault(1, 7, "person -1 1;");
-        houseFault(1, 8, "person 1;");
-        houseFault(1, 9, "person 12;");
-        houseFault(1, 10, "person 1 1");
-        houseFault(1, 13, "person 1 1   ");
-        houseFault(1, 11, "person 1 1 1;");
-        houseFault(1, 11, "person 1 1 person 1 1;");
-        houseFault(1, 11, ONE + ";");
-        houseFault(1, 6, "person\t1 1;");
-        houseFault(1, 11, ONE + "bar ill;");
-        houseStands(0, "");
-        houseStands(0, "     ");
-        houseStands(0, "person1 1;");
-        houseStands(0, "  person  00000000000000000000999   0 ;  ");
-        houseStands(1, "person1 1;good0 5 5;");
-        houseStands(0, ONE + "ill0 0;fee3 99;month0 35 999;debt0 1 9999;");
+        Check.houseFault(1, 0, ";");
+        Check.houseFault(1, 2, "  ;");
+        Check.houseFault(1, 0, "Person 1 1;");
+        Check.houseFault(1, 0, "personal 1 1;");
+        Check.houseFault(1, 0, "pers on 1 1;");
+        Check.houseFault(1, 0, "personz 1 1;");
+        Check.houseFault(1, 0, "aperson 1 1;");
+        Check.houseFault(1, 6, "person");
+        Check.houseFault(1, 9, "person   ");
+        Check.houseFault(1, 7, "person -1 1;");
+        Check.houseFault(1, 8, "person 1;");
+        Check.houseFault(1, 9, "person 12;");
+        Check.houseFault(1, 10, "person 1 1");
+        Check.houseFault(1, 13, "person 1 1   ");
+        Check.houseFault(1, 11, "person 1 1 1;");
+        Check.houseFault(1, 11, "person 1 1 person 1 1;");
+        Check.houseFault(1, 11, ONE + ";");
+        Check.houseFault(1, 6, "person\t1 1;");
+        Check.houseFault(1, 11, ONE + "bar ill;");
+        Check.houseStands(0, "");
+        Check.houseStands(0, "     ");
+        Check.houseStands(0, "person1 1;");
+        Check.houseStands(0, "  person  00000000000000000000999   0 ;  ");
+        Check.houseStands(1, "person1 1;good0 5 5;");
+        Check.houseStands(0, ONE + "ill0 0;fee3 99;month0 35 999;debt0 1 9999;");
     }
 
     private static void numbersInHouse() {
-        houseFault(2, 7, "person 1000 1;");
-        houseFault(2, 9, "person 1 99999999999999999999;");
-        houseFault(2, 7, "person 4294967297 1;");
-        houseFault(2, 6, "month 0 0 0;");
-        houseFault(2, 17, ONE + "month 1 0 0;");
-        houseFault(2, 19, ONE + "month 0 36 0;");
-        houseFault(2, 21, ONE + "month 0 0 1000;");
-        houseFault(2, 16, ONE + "good 1 1 0;");
-        houseFault(2, 18, ONE + "good 0 0 0;");
-        houseFault(2, 18, ONE + "good 0 1000 0;");
-        houseFault(2, 20, ONE + "good 0 1 6;");
-        houseFault(2, 38, OWNED + "part 1 1 1;");
-        houseFault(2, 40, OWNED + "part 0 0 1;");
-        houseFault(2, 40, OWNED + "part 0 2 1;");
-        houseFault(2, 42, OWNED + "part 0 1 0;");
-        houseFault(2, 42, OWNED + "part 0 1 12;");
-        houseFault(2, 51, OWNED + "part 0 1 1;part 0 1 1;");
-        houseFault(2, 64, OWNED + "person 3 3;part 0 1 6;part 0 2 6;");
-        houseStands(1, OWNED + "person 3 3;part 0 1 6;part 0 2 5;");
-        houseStands(1, OWNED + "part 0 1 11;");
-        houseFault(2, 39, OWNED + "claim 1 0 0;");
-        houseFault(2, 41, OWNED + "claim 0 10000 10000;");
-        houseFault(2, 43, OWNED + "claim 0 9 8;");
-        houseFault(2, 43, OWNED + "claim 0 9 10001;");
-        houseStands(1, OWNED + "claim 0 9 9;claim 0 9999 10000;");
-        houseFault(2, 16, ONE + "debt 1 1 1;");
-        houseFault(2, 18, ONE + "debt 0 0 1;");
-        houseFault(2, 18, ONE + "debt 0 10000 1;");
-        houseFault(2, 20, ONE + "debt 0 1 10000;");
-        houseFault(2, 15, ONE + "ill 1 0;");
-        houseFault(2, 17, ONE + "ill 0 10000;");
-        houseFault(2, 4, "fee 4 0;");
-        houseFault(2, 6, "fee 0 100;");
+        Check.houseFault(2, 7, "person 1000 1;");
+        Check.houseFault(2, 9, "person 1 99999999999999999999;");
+        Check.houseFault(2, 7, "person 4294967297 1;");
+        Check.houseFault(2, 6, "month 0 0 0;");
+        Check.houseFault(2, 17, ONE + "month 1 0 0;");
+        Check.houseFault(2, 19, ONE + "month 0 36 0;");
+        Check.houseFault(2, 21, ONE + "month 0 0 1000;");
+        Check.houseFault(2, 16, ONE + "good 1 1 0;");
+        Check.houseFault(2, 18, ONE + "good 0 0 0;");
+        Check.houseFault(2, 18, ONE + "good 0 1000 0;");
+        Check.houseFault(2, 20, ONE + "good 0 1 6;");
+        Check.houseFault(2, 38, OWNED + "part 1 1 1;");
+        Check.houseFault(2, 40, OWNED + "part 0 0 1;");
+        Check.houseFault(2, 40, OWNED + "part 0 2 1;");
+        Check.houseFault(2, 42, OWNED + "part 0 1 0;");
+        Check.houseFault(2, 42, OWNED + "part 0 1 12;");
+        Check.houseFault(2, 51, OWNED + "part 0 1 1;part 0 1 1;");
+        Check.houseFault(2, 64, OWNED + "person 3 3;part 0 1 6;part 0 2 6;");
+        Check.houseStands(1, OWNED + "person 3 3;part 0 1 6;part 0 2 5;");
+        Check.houseStands(1, OWNED + "part 0 1 11;");
+        Check.houseFault(2, 39, OWNED + "claim 1 0 0;");
+        Check.houseFault(2, 41, OWNED + "claim 0 10000 10000;");
+        Check.houseFault(2, 43, OWNED + "claim 0 9 8;");
+        Check.houseFault(2, 43, OWNED + "claim 0 9 10001;");
+        Check.houseStands(1, OWNED + "claim 0 9 9;claim 0 9999 10000;");
+        Check.houseFault(2, 16, ONE + "debt 1 1 1;");
+        Check.houseFault(2, 18, ONE + "debt 0 0 1;");
+        Check.houseFault(2, 18, ONE + "debt 0 10000 1;");
+        Check.houseFault(2, 20, ONE + "debt 0 1 10000;");
+        Check.houseFault(2, 15, ONE + "ill 1 0;");
+        Check.houseFault(2, 17, ONE + "ill 0 10000;");
+        Check.houseFault(2, 4, "fee 4 0;");
+        Check.houseFault(2, 6, "fee 0 100;");
     }
 
     private static void tooManyInHouse() {
         String persons = ONE.repeat(4);
-        houseStands(0, persons);
-        houseFault(3, 44, persons + ONE);
-        houseFault(3, 45, persons + " person");
-        houseFault(1, 44, persons + "persons");
+        Check.houseStands(0, persons);
+        Check.houseFault(3, 44, persons + ONE);
+        Check.houseFault(3, 45, persons + " person");
+        Check.houseFault(1, 44, persons + "persons");
         String goods = ONE + "good0 1 1;".repeat(12);
-        houseStands(12, goods);
-        houseFault(3, 131, goods + "good");
+        Check.houseStands(12, goods);
+        Check.houseFault(3, 131, goods + "good");
         String debts = ONE + "debt0 1 1;".repeat(6);
-        houseStands(0, debts);
-        houseFault(3, 71, debts + "debt");
+        Check.houseStands(0, debts);
+        Check.houseFault(3, 71, debts + "debt");
         String clauses = "fee0 1;".repeat(60);
-        houseStands(0, clauses);
-        houseStands(0, clauses + "  ");
+        Check.houseStands(0, clauses);
+        Check.houseStands(0, clauses + "  ");
         for (String word : new String[] {"person", "month", "good", "part", "claim", "debt", "ill", "fee"}) {
-            houseFault(3, 421, clauses + " " + word);
+            Check.houseFault(3, 421, clauses + " " + word);
         }
-        houseFault(1, 421, clauses + " feet 0 1;");
-        houseFault(1, 420, clauses + ";");
-    }
-
-    private static void lawFault(int kind, int place, String text) {
-        ListedGoods x = new ListedGoods();
-        Check.due("law '" + text + "'", kind - 10, () -> Check.law(x, text));
-        Check.due("its place in '" + text + "'", place, x::fault);
-        Check.due("no rules by it", 0, () -> x.told(3));
-    }
-
-    private static void lawStands(int rules, String text) {
-        ListedGoods x = new ListedGoods();
-        Check.due("law '" + text + "'", rules, () -> Check.law(x, text));
-        Check.due("no fault in '" + text + "'", -1, x::fault);
-        Check.due("its rules", rules, () -> x.told(3));
+        Check.houseFault(1, 421, clauses + " feet 0 1;");
+        Check.houseFault(1, 420, clauses + ";");
     }
 
     private static void misplacedInLaw() {
-        lawFault(1, 0, "person 1 1;");
-        lawFault(1, 0, "barill;");
-        lawFault(1, 3, "bar");
-        lawFault(1, 4, "bar ");
-        lawFault(1, 7, "bar ill");
-        lawFault(1, 9, "bar ill  ");
-        lawFault(1, 4, "bar illness;");
-        lawFault(1, 4, "bar and ill;");
-        lawFault(1, 11, "bar ill and;");
-        lawFault(1, 11, "bar ill and");
-        lawFault(1, 12, "bar ill and or ill;");
-        lawFault(1, 8, "bar ill not other;");
-        lawFault(1, 7, "bar ill];");
-        lawFault(1, 9, "bar [ill]];");
-        lawFault(1, 5, "bar [];");
-        lawFault(1, 8, "bar [ill;");
-        lawFault(1, 8, "bar [ill");
-        lawFault(1, 7, "bar ill[other];");
-        lawFault(1, 8, "bar not ;");
-        lawFault(1, 8, "bar kind;");
-        lawFault(1, 8, "bar kind<3;");
-        lawFault(1, 10, "bar worth 3;");
-        lawFault(1, 10, "bar worth =3;");
-        lawFault(1, 10, "bar worth ;");
-        lawFault(1, 11, "bar worth <;");
-        lawFault(1, 11, "bar worth <<3;");
-        lawFault(1, 8, "bar hour");
-        lawFault(1, 8, "bar ill;;");
-        lawFault(1, 8, "bar ill 5;");
-        lawStands(0, "");
-        lawStands(0, "   ");
-        lawStands(1, "bar ill;");
-        lawStands(1, "  bar   not  [ ill  ]  ; ");
-        lawStands(1, "bar[ill]and[other]or[not[parted]];");
-        lawStands(2, "bar worth<5and hour>3or owed < 9999;bar not not not kind0;");
+        Check.lawFault(1, 0, "person 1 1;");
+        Check.lawFault(1, 0, "barill;");
+        Check.lawFault(1, 3, "bar");
+        Check.lawFault(1, 4, "bar ");
+        Check.lawFault(1, 7, "bar ill");
+        Check.lawFault(1, 9, "bar ill  ");
+        Check.lawFault(1, 4, "bar illness;");
+        Check.lawFault(1, 4, "bar and ill;");
+        Check.lawFault(1, 11, "bar ill and;");
+        Check.lawFault(1, 11, "bar ill and");
+        Check.lawFault(1, 12, "bar ill and or ill;");
+        Check.lawFault(1, 8, "bar ill not other;");
+        Check.lawFault(1, 7, "bar ill];");
+        Check.lawFault(1, 9, "bar [ill]];");
+        Check.lawFault(1, 5, "bar [];");
+        Check.lawFault(1, 8, "bar [ill;");
+        Check.lawFault(1, 8, "bar [ill");
+        Check.lawFault(1, 7, "bar ill[other];");
+        Check.lawFault(1, 8, "bar not ;");
+        Check.lawFault(1, 8, "bar kind;");
+        Check.lawFault(1, 8, "bar kind<3;");
+        Check.lawFault(1, 10, "bar worth 3;");
+        Check.lawFault(1, 10, "bar worth =3;");
+        Check.lawFault(1, 10, "bar worth ;");
+        Check.lawFault(1, 11, "bar worth <;");
+        Check.lawFault(1, 11, "bar worth <<3;");
+        Check.lawFault(1, 8, "bar hour");
+        Check.lawFault(1, 8, "bar ill;;");
+        Check.lawFault(1, 8, "bar ill 5;");
+        Check.lawStands(0, "");
+        Check.lawStands(0, "   ");
+        Check.lawStands(1, "bar ill;");
+        Check.lawStands(1, "  bar   not  [ ill  ]  ; ");
+        Check.lawStands(1, "bar[ill]and[other]or[not[parted]];");
+        Check.lawStands(2, "bar worth<5and hour>3or owed < 9999;bar not not not kind0;");
     }
 
     private static void numbersInLaw() {
-        lawFault(2, 9, "bar kind 6;");
-        lawFault(2, 11, "bar worth <10000;");
-        lawFault(2, 10, "bar owed >123456789012345678901234567890;");
-        lawFault(2, 11, "bar hour > 10000;");
-        lawStands(1, "bar kind 5 or worth >9999 or owed <0 or hour >009999;");
+        Check.lawFault(2, 9, "bar kind 6;");
+        Check.lawFault(2, 11, "bar worth <10000;");
+        Check.lawFault(2, 10, "bar owed >123456789012345678901234567890;");
+        Check.lawFault(2, 11, "bar hour > 10000;");
+        Check.lawStands(1, "bar kind 5 or worth >9999 or owed <0 or hour >009999;");
     }
 
     private static void tooManyInLaw() {
         String ten = "bar ill;".repeat(10);
-        lawStands(10, ten);
-        lawStands(10, ten + " ");
-        lawFault(3, 80, ten + "bar");
-        lawFault(3, 82, ten + "  bar ill;");
-        lawFault(1, 80, ten + "bars");
-        lawFault(1, 80, ten + "ill;");
+        Check.lawStands(10, ten);
+        Check.lawStands(10, ten + " ");
+        Check.lawFault(3, 80, ten + "bar");
+        Check.lawFault(3, 82, ten + "  bar ill;");
+        Check.lawFault(1, 80, ten + "bars");
+        Check.lawFault(1, 80, ten + "ill;");
     }
 
     private static void deepLaw() {
-        lawFault(1, 300, "bar " + "[".repeat(296));
+        Check.lawFault(1, 300, "bar " + "[".repeat(296));
         String deep = "bar " + "[".repeat(146) + "ill" + "]".repeat(146) + ";";
         Check.due("a deep law's bytes", 300, deep::length);
-        lawStands(1, deep);
-        lawStands(1, "bar " + "not ".repeat(73) + "ill;");
-        lawStands(1, "bar " + "not[".repeat(56) + "ill" + "]".repeat(56) + ";");
-        lawStands(1, "bar " + "ill or[".repeat(36) + "ill" + "]".repeat(36) + ";");
+        Check.lawStands(1, deep);
+        Check.lawStands(1, "bar " + "not ".repeat(73) + "ill;");
+        Check.lawStands(1, "bar " + "not[".repeat(56) + "ill" + "]".repeat(56) + ";");
+        Check.lawStands(1, "bar " + "ill or[".repeat(36) + "ill" + "]".repeat(36) + ";");
     }
 }
