@@ -214,8 +214,14 @@ public final class BoundsOfAskingTest {
     }
 
     static void ofADebt() {
-        Check.sentence("3 what it gets by RANKS, 4 whether it is SET ASIDE (1, 0)");
+        Check.sentence("Of a DEBT: 0 PERSON, 1 A, 2 WRIT, 3 what it gets by RANKS, 4 whether it is SET ASIDE (1, 0)");
         ListedGoods x = plain();
+        Check.due("the first person's", 0, () -> x.debt(0, 0));
+        Check.due("the last person's", 1, () -> x.debt(1, 0));
+        Check.due("the least", 1, () -> x.debt(0, 1));
+        Check.due("the most", 9999, () -> x.debt(1, 1));
+        Check.due("the latest", 9999, () -> x.debt(0, 2));
+        Check.due("the earliest", 0, () -> x.debt(1, 2));
         Check.due("nothing yet", 0, () -> x.debt(0, 3));
         Check.due("not yet", 0, () -> x.debt(0, 4));
         x.take(0, 0, 0, 0);

@@ -354,6 +354,41 @@ public final class BoundsOfListTest {
         Check.due("the list stays, so does coin", 6, () -> y.person(0, 3));
     }
 
+    static void ofAFullHouse() {
+        Check.sentence("4 at most, 12, 6 (all at once)");
+        ListedGoods x = Check.with("person 0 0;".repeat(4) + "good3 12 0;".repeat(12) + "part0 0 1;part0 1 2;part0 2 8;"
+                + "debt0 9 5;debt1 9 4;debt2 9 3;debt3 9 2;debt3 9 1;debt3 9 0;", "");
+        for (int debt = 0; debt < 4; debt++) {
+            x.take(debt, 0, 0, 0);
+            x.take(debt, 11, 0, 0);
+        }
+        Check.due("the owner of three parts", 1, () -> x.sell(0, 12, 0));
+        Check.due("the last good", 24, () -> x.sell(11, 24, 0));
+        int[] coin = {1, 2, 8, 25};
+        for (int p = 0; p < 4; p++) {
+            int pp = p;
+            Check.due("coin of " + p, coin[p], () -> x.person(pp, 3));
+        }
+        gets(x, 1, 2, 8, 7, 9, 9);
+        Check.due("what covers it", 12, () -> x.cover(3, 0, 0, 0));
+        Check.due("the first that is not sold", 2, () -> x.cover(3, 0, 0, 1));
+        Check.due("when", 0, () -> x.when(5, 11, 0, 0));
+        Check.law(x, "bar owed <27;");
+        Check.due("when by its writs", 2, () -> x.when(5, 11, 0, 0));
+    }
+
+    static void coinOfSeveral() {
+        Check.sentence("COIN: what he gets of GOODS (of all these together)");
+        ListedGoods x = Check.with("person 0 0;" + "good0 9 0;".repeat(12) + "debt 0 9999 0;", "");
+        for (int g = 0; g < 12; g++) {
+            x.take(0, g, 0, 0);
+            x.sell(g, 9999, 0);
+        }
+        Check.due("the most", 119988, () -> x.person(0, 3));
+        Check.due("less a debt", 109989, () -> x.person(0, 4));
+        Check.due("the debt", 9999, () -> x.debt(0, 3));
+    }
+
     /* ---- RANKS ---- */
 
     private static void gets(ListedGoods x, int... want) {

@@ -166,6 +166,32 @@ public final class BoundsOfTextsTest {
         Check.due("and fees", 0, () -> x.stage(0, 3));
     }
 
+    static void nothingOfAnOldHouse() {
+        Check.sentence("The first n bytes are the HOUSE (and nothing of one ahead)");
+        ListedGoods x = new ListedGoods();
+        String much = TWO + "good 0 5 0;good 1 5 0;part 0 1 6;claim 0 0 0;debt 0 9 0;debt 0 9 0;ill 0 0;fee 0 9;fee 3 9;month 0 3 9;";
+        for (int i = 0; i < 3; i++) {
+            Check.house(x, much);
+        }
+        Check.house(x, "goods");
+        Check.law(x, "bar ill;bar claimed;bar proved;bar parted;");
+        for (int i = 0; i < 3; i++) {
+            Check.due("a lesser house", 1, () -> Check.house(x, "person 7 7;person 8 8;good 0 5 0;debt 0 3 0;"));
+            Check.due("persons", 2, () -> x.told(0));
+            Check.due("goods", 1, () -> x.told(1));
+            Check.due("debts", 1, () -> x.told(2));
+            Check.due("the owner's part", 12, () -> x.part(0, 0));
+            Check.due("another's part", 0, () -> x.part(0, 1));
+            Check.due("incomes", 7, () -> x.income(0, 3));
+            Check.due("nothing told of it bars", -1, () -> x.bars(0, 0, 9999, 0));
+            Check.due("fees", 0, () -> x.stage(0, 3));
+        }
+        Check.due("no good", 0, () -> Check.house(x, "person 7 7;"));
+        Check.due("no debt", 0, () -> x.told(2));
+        Check.due("no person", 0, () -> Check.house(x, ""));
+        Check.due("none", 0, () -> x.told(0));
+    }
+
     static void faultLeavesAll() {
         Check.sentence("or the FAULT less 10 (all stays)");
         String[] texts = {"goods", "person 1 1;ill 1 0;", ONE.repeat(5), OWNED + "fee 0 1"};
@@ -226,6 +252,22 @@ public final class BoundsOfTextsTest {
             Check.same("all", before, Check.all(x).replaceFirst("^-?\\d+", ""));
             Check.due("the law is the old one", -1, () -> x.bars(0, 1, 0, 0));
         }
+    }
+
+    static void anotherLawBehindAFault() {
+        Check.sentence("the FAULT (all stays): the next LAW is read from its first byte on");
+        ListedGoods x = Check.with(OWNED + "debt 0 9 0;", "");
+        for (String fault : new String[] {"bar [[[ill;", "bar [", "bar not not", "bar ill and", "bar ill or[not", "bar kind 0 or[kind 9",
+            "bar kind 0;bar", "bar kind 0;bar kind 7;"}) {
+            Check.law(x, fault);
+            Check.due("no law by '" + fault + "'", 0, () -> x.told(3));
+        }
+        Check.due("a law", 2, () -> Check.law(x, "bar kind 1;bar kind 0;"));
+        Check.due("it bars by its own rules", 1, () -> x.bars(0, 0, 0, 0));
+        Check.law(x, "bar [[[kind 0;");
+        Check.due("which stay behind a fault", 1, () -> x.bars(0, 0, 0, 0));
+        Check.due("a shorter law", 1, () -> Check.law(x, "bar kind 2;"));
+        Check.due("nothing of the longer one is left", -1, () -> x.bars(0, 0, 0, 0));
     }
 
     static void lawLeavesAllElse() {
@@ -514,10 +556,16 @@ public final class BoundsOfTextsTest {
                 Check.lawFault(1, 10, "bar " + atom + sign + "-1;");
             }
             Check.lawFault(1, 9, "bar " + atom + "=5;");
+            Check.lawFault(1, 9, "bar " + atom + ";");
+            Check.lawFault(1, 9, "bar[" + atom + "];");
+            Check.lawFault(1, 10, "bar " + atom + " and ill;");
             Check.lawFault(1, 9, "bar " + atom + "5;");
             Check.lawFault(1, 10, "bar " + atom + "<=5;");
         }
         Check.lawFault(1, 8, "bar kind<5;");
+        Check.lawFault(1, 8, "bar kind;");
+        Check.lawFault(1, 9, "bar [kind];");
+        Check.lawFault(1, 9, "bar kind or ill;");
     }
 
     static void digits() {
@@ -542,6 +590,11 @@ public final class BoundsOfTextsTest {
         Check.houseFault(1, 0, "persona 1 1;");
         Check.houseFault(1, 0, "perso 1 1;");
         Check.houseFault(1, 0, "pErson 1 1;");
+        Check.houseFault(1, 0, "zerson 1 1;");
+        Check.houseFault(1, 0, "persoz 1 1;");
+        Check.houseFault(1, 0, "personz 1 1;");
+        Check.houseFault(1, 0, "zperson 1 1;");
+        Check.houseFault(1, 0, "aperson 1 1;");
         Check.houseFault(1, 0, "Person 1 1;");
         Check.houseFault(1, 6, "personA1 1;");
         Check.houseFault(1, 6, "person`1 1;");
