@@ -28,6 +28,7 @@ public final class FaceTest {
         members();
         nested();
         source(args.length > 0 ? args[0] : "src/main/java/ListedGoods.java");
+        room(args.length > 0 ? args[0] : "src/main/java/ListedGoods.java");
         wildArguments();
         Check.end("FaceTest");
     }
@@ -66,6 +67,7 @@ public final class FaceTest {
     }
 
     private static void nested() {
+        List<String> names = face().stream().map(Method::getName).toList();
         Class<?>[] inside = ListedGoods.class.getDeclaredClasses();
         Check.same("at most twelve classes", "true", "" + (inside.length + 1 <= 12));
         for (Class<?> c : inside) {
@@ -75,6 +77,7 @@ public final class FaceTest {
             Check.same("at most twenty fields: " + c.getName(), "true", "" + (fields <= 20));
             for (Method m : c.getDeclaredMethods()) {
                 Check.same("at most seven parameters: " + m.getName(), "true", "" + (m.getParameterCount() <= 7));
+                Check.same("of another name: " + m.getName(), "false", "" + names.contains(m.getName()));
             }
         }
     }
@@ -87,6 +90,17 @@ public final class FaceTest {
         }
         List<String> imports = text.lines().filter(s -> s.startsWith("import ")).toList();
         Check.same("imports", "[import java.util.Arrays;, import java.util.NoSuchElementException;]", imports.toString());
+    }
+
+    /* All calls of a run live in one room: rows are made with the object, a call makes nothing but what it throws. */
+    private static void room(String path) throws IOException {
+        for (String line : Files.readAllLines(Path.of(path))) {
+            if (line.contains("new ") && !line.matches(" *(/\\*|//).*")) {
+                boolean isFine = line.contains("throw new ") || line.contains("images[i] = new Course()")
+                        || line.matches(" +(private |final |private final )[a-zA-Z\\[\\]]+ [a-zA-Z]+ = new .*;");
+                Check.same("made with the object, or thrown: " + line.strip(), "true", "" + isFine);
+            }
+        }
     }
 
     /* Every call with numbers from all ends: it answers, or throws what it declares, once counted. */
